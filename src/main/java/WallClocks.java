@@ -1066,18 +1066,17 @@ public final class WallClocks {
             return stopped;
         }
 
-        private int goingOnes() {
-            int running = runningOnes();
+        private int goingAmong(int running) {
             return running & ~stoppedBy(running);
         }
 
+        boolean goesToday(int clock) {
+            return bitOf(goingAmong(runningOnes()), clock) == 1;
+        }
+
         int pullToday(int clock) {
-            int going = goingOnes();
-            if (bitOf(going, clock) == 0) {
-                return 0;
-            }
-            gatherDrives(going);
-            return pullBy(clock);
+            gatherDrives(goingAmong(runningOnes()));
+            return goesToday(clock) ? pullBy(clock) : 0;
         }
 
         /** TENDENCY one way is TENDENCY the other way below 0, so that a pair is looked at once. */
@@ -1124,7 +1123,7 @@ public final class WallClocks {
         }
 
         void goDay(int damp) {
-            int going = goingOnes();
+            int going = goingAmong(runningOnes());
             gatherDrives(going);
             for (int i = 0; i < clocks; i++) {
                 if (bitOf(going, i) == 1) {
@@ -1351,12 +1350,7 @@ public final class WallClocks {
 
     /** What comes when a clock has another rate. */
     private static final class Rates {
-        private static final int ROW = 2 * MOST_CLOCKS;
-
         private final Trial trial;
-        /** PHASES and OFF by each rate; made when they are first needed, since most objects never need them. */
-        private int[] rows = new int[0];
-        private int[] sorted = new int[0];
 
         Rates(Trial trial) {
             this.trial = trial;
@@ -1420,61 +1414,18 @@ public final class WallClocks {
             return true;
         }
 
-        /** All rates go on together, day by day, so that no day's row has to be kept. */
+        /**
+         * Until a clock goes, the wall is the same whatever its rate; on the day on which it first goes, each rate
+         * gives an OFF of its own, and more unlike ones there can't be.
+         */
         int tellingDay(int clock, int n, int what) {
-            beginRows();
-            int most = 0;
-            int first = NONE;
             for (int on = 1; on <= n; on++) {
-                for (int index = 0; index < RATES; index++) {
-                    goRow(clock, index, on);
-                    putInOrder(index, trial.off[clock]);
+                if (trial.goesToday(clock)) {
+                    return what == 0 ? on : RATES;
                 }
-                int unlike = countUnlike();
-                if (unlike > most) {
-                    most = unlike;
-                    first = on;
-                }
+                trial.goDays(1);
             }
-            return what == 0 ? first : most;
-        }
-
-        private void beginRows() {
-            if (rows.length < RATES * ROW) {
-                rows = new int[RATES * ROW];
-                sorted = new int[RATES];
-            }
-            for (int index = 0; index < RATES; index++) {
-                System.arraycopy(trial.phase, 0, rows, index * ROW, MOST_CLOCKS);
-                System.arraycopy(trial.off, 0, rows, index * ROW + MOST_CLOCKS, MOST_CLOCKS);
-            }
-        }
-
-        private void goRow(int clock, int index, int on) {
-            System.arraycopy(rows, index * ROW, trial.phase, 0, MOST_CLOCKS);
-            System.arraycopy(rows, index * ROW + MOST_CLOCKS, trial.off, 0, MOST_CLOCKS);
-            trial.day = trial.start.day + on - 1;
-            trial.rate[clock] = index - GREATEST_RATE;
-            trial.goDays(1);
-            System.arraycopy(trial.phase, 0, rows, index * ROW, MOST_CLOCKS);
-            System.arraycopy(trial.off, 0, rows, index * ROW + MOST_CLOCKS, MOST_CLOCKS);
-        }
-
-        /** A faster clock is mostly further on, so that a new one is near its place at the end. */
-        private void putInOrder(int many, int off) {
-            int at = many;
-            for (; at > 0 && sorted[at - 1] > off; at--) {
-                sorted[at] = sorted[at - 1];
-            }
-            sorted[at] = off;
-        }
-
-        private int countUnlike() {
-            int unlike = 1;
-            for (int i = 1; i < RATES; i++) {
-                unlike += sorted[i] != sorted[i - 1] ? 1 : 0;
-            }
-            return unlike;
+            return 1;
         }
     }
 
@@ -1500,7 +1451,11 @@ public final class WallClocks {
                 }
                 hangChosen();
                 int weight = mostWeight();
-                if (weight < least && allRight(those, n)) {
+                if (weight >= least) {
+                    continue;
+                }
+                tryHung(n);
+                if ((those & ~trial.rightOnes()) == 0) {
                     best = writtenWay();
                     least = weight;
                     if (what == 0) {
@@ -1566,11 +1521,6 @@ public final class WallClocks {
                 most = Math.max(most, weight);
             }
             return most;
-        }
-
-        private boolean allRight(int those, int n) {
-            tryHung(n);
-            return (those & ~trial.rightOnes()) == 0;
         }
 
         private void tryHung(int n) {
