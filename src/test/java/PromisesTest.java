@@ -149,42 +149,30 @@ public final class PromisesTest {
         Check.due("a key of an earlier wall is gone", 1, () -> x.clock(0, 7));
     }
 
-    private static void fault(String text, int kind, int place) {
-        WallClocks x = new WallClocks();
-        Check.due("wall of \"" + text + "\"", kind - 10, () -> Check.read(x, text));
-        Check.due("fault of \"" + text + "\"", place, x::fault);
-    }
-
-    private static void whole(String text, int clocks) {
-        WallClocks x = new WallClocks();
-        Check.due("wall of \"" + text + "\"", clocks, () -> Check.read(x, text));
-        Check.due("fault of \"" + text + "\"", NONE, x::fault);
-    }
-
     /** Promises 3 and 4: what can't stand there, and words. */
     private static void faults() {
-        fault(";", 1, 0);
-        fault("5", 1, 0);
-        fault("  boar 5;", 1, 2);
-        fault("boards 5;", 1, 0);
-        fault("Board 5;", 1, 0);
-        fault("board", 1, 5);
-        fault("board  ", 1, 7);
-        fault("board 5", 1, 7);
-        fault("board 5  ", 1, 9);
-        fault("board 5x;", 1, 7);
-        fault("board 5 5;", 1, 8);
-        fault("board ;", 1, 6);
-        fault("board -1;", 1, 6);
-        fault("board 5;;", 1, 8);
-        fault("board 5;\n", 1, 8);
-        fault("board 5;\u00e9", 1, 8);
-        fault("board\t5;", 1, 5);
-        fault("board 5;clock 0 0 100 1 0;", 1, 25);
-        whole("", 0);
-        whole("    ", 0);
-        whole("board5;clock0 0 100 1 0 0;", 1);
-        whole(" board 00000000000000000005 ; ", 0);
+        Check.fault(";", 1, 0);
+        Check.fault("5", 1, 0);
+        Check.fault("  boar 5;", 1, 2);
+        Check.fault("boards 5;", 1, 0);
+        Check.fault("Board 5;", 1, 0);
+        Check.fault("board", 1, 5);
+        Check.fault("board  ", 1, 7);
+        Check.fault("board 5", 1, 7);
+        Check.fault("board 5  ", 1, 9);
+        Check.fault("board 5x;", 1, 7);
+        Check.fault("board 5 5;", 1, 8);
+        Check.fault("board ;", 1, 6);
+        Check.fault("board -1;", 1, 6);
+        Check.fault("board 5;;", 1, 8);
+        Check.fault("board 5;\n", 1, 8);
+        Check.fault("board 5;\u00e9", 1, 8);
+        Check.fault("board\t5;", 1, 5);
+        Check.fault("board 5;clock 0 0 100 1 0;", 1, 25);
+        Check.whole("", 0);
+        Check.whole("    ", 0);
+        Check.whole("board5;clock0 0 100 1 0 0;", 1);
+        Check.whole(" board 00000000000000000005 ; ", 0);
         WallClocks x = new WallClocks();
         Check.read(x, "board 5x;");
         Check.illegal("a wall that throws", () -> x.wall(1));
@@ -198,67 +186,67 @@ public final class PromisesTest {
         String board = "board 5;";
         String clock = board + "clock 0 0 100 1 0 0;";
         String two = clock + "clock 0 1 100 1 0 0;";
-        fault("board 0;", 2, 6);
-        fault("board 10;", 2, 6);
-        fault("board 4294967297;", 2, 6);
-        fault("board 18446744073709551617;", 2, 6);
-        fault(board + "clock 1 0 100 1 0 0;", 2, 14);
-        fault(board + "clock 0 20 100 1 0 0;", 2, 16);
-        fault(board + "clock 0 0 201 1 0 0;", 2, 18);
-        fault(board + "clock 0 0 200 0 0 0;", 2, 22);
-        fault(board + "clock 0 0 200 21 0 0;", 2, 22);
-        fault(board + "clock 0 0 200 20 5 0;", 2, 25);
-        fault(board + "clock 0 0 200 20 4 1000;", 2, 27);
-        whole(board + "clock 0 19 200 20 4 999;", 1);
-        whole(board + "clock 0 0 0 1 0 0;", 1);
-        fault(clock + "clock 0 0 x", 2, 36);
-        fault(clock + "hook 0 0;", 2, 35);
-        fault(board + "hook 0 3;hook 0 3;", 2, 24);
-        fault(board + "hook 0 3;clock 0 3 100 1 0 0;", 2, 25);
-        fault(board + "hook 1 3;", 2, 13);
-        fault(board + "hook 0 20;", 2, 15);
-        fault(two + "hears 0 2 1;", 2, 56);
-        fault(two + "hears 2 0 1;", 2, 54);
-        fault(two + "hears 1 1 1;", 2, 56);
-        fault(two + "hears 1 0 100;", 2, 58);
-        whole(two + "hears 1 0 99;hears 0 1 0;", 2);
-        fault("damp 400 1;", 2, 5);
-        fault("damp 399 51;", 2, 9);
-        whole("damp 399 50;damp 0 0;", 0);
-        fault(clock + "key 1 3;", 2, 32);
-        fault(clock + "key 0 0;", 2, 34);
-        fault(clock + "key 0 31;", 2, 34);
-        whole(clock + "key 0 30;key 0 1;", 1);
-        fault(clock + "sound 1;", 2, 34);
-        fault("right 500;", 2, 6);
-        whole("right 499;", 0);
-        fault("sound 0;" + clock, 2, 6);
+        Check.fault("board 0;", 2, 6);
+        Check.fault("board 10;", 2, 6);
+        Check.fault("board 4294967297;", 2, 6);
+        Check.fault("board 18446744073709551617;", 2, 6);
+        Check.fault(board + "clock 1 0 100 1 0 0;", 2, 14);
+        Check.fault(board + "clock 0 20 100 1 0 0;", 2, 16);
+        Check.fault(board + "clock 0 0 201 1 0 0;", 2, 18);
+        Check.fault(board + "clock 0 0 200 0 0 0;", 2, 22);
+        Check.fault(board + "clock 0 0 200 21 0 0;", 2, 22);
+        Check.fault(board + "clock 0 0 200 20 5 0;", 2, 25);
+        Check.fault(board + "clock 0 0 200 20 4 1000;", 2, 27);
+        Check.whole(board + "clock 0 19 200 20 4 999;", 1);
+        Check.whole(board + "clock 0 0 0 1 0 0;", 1);
+        Check.fault(clock + "clock 0 0 x", 2, 36);
+        Check.fault(clock + "hook 0 0;", 2, 35);
+        Check.fault(board + "hook 0 3;hook 0 3;", 2, 24);
+        Check.fault(board + "hook 0 3;clock 0 3 100 1 0 0;", 2, 25);
+        Check.fault(board + "hook 1 3;", 2, 13);
+        Check.fault(board + "hook 0 20;", 2, 15);
+        Check.fault(two + "hears 0 2 1;", 2, 56);
+        Check.fault(two + "hears 2 0 1;", 2, 54);
+        Check.fault(two + "hears 1 1 1;", 2, 56);
+        Check.fault(two + "hears 1 0 100;", 2, 58);
+        Check.whole(two + "hears 1 0 99;hears 0 1 0;", 2);
+        Check.fault("damp 400 1;", 2, 5);
+        Check.fault("damp 399 51;", 2, 9);
+        Check.whole("damp 399 50;damp 0 0;", 0);
+        Check.fault(clock + "key 1 3;", 2, 32);
+        Check.fault(clock + "key 0 0;", 2, 34);
+        Check.fault(clock + "key 0 31;", 2, 34);
+        Check.whole(clock + "key 0 30;key 0 1;", 1);
+        Check.fault(clock + "sound 1;", 2, 34);
+        Check.fault("right 500;", 2, 6);
+        Check.whole("right 499;", 0);
+        Check.fault("sound 0;" + clock, 2, 6);
         tooMany();
     }
 
     private static void tooMany() {
         String boards = "board 1;board 2;board 3;board 4;";
-        fault(boards + "board 0;", 3, 32);
-        fault(boards + "boar", 1, 32);
+        Check.fault(boards + "board 0;", 3, 32);
+        Check.fault(boards + "boar", 1, 32);
         StringBuilder clocks = new StringBuilder("board 5;");
         for (int i = 0; i < 8; i++) {
             clocks.append("clock 0 ").append(i).append(" 100 1 0 0;");
         }
-        whole(clocks.toString(), 8);
-        fault(clocks + " clock 9", 3, clocks.length() + 1);
+        Check.whole(clocks.toString(), 8);
+        Check.fault(clocks + " clock 9", 3, clocks.length() + 1);
         StringBuilder hooks = new StringBuilder("board 5;");
         for (int i = 0; i < 6; i++) {
             hooks.append("hook 0 ").append(i).append(";");
         }
-        whole(hooks.toString(), 0);
-        fault(hooks + "hook 0 9;", 3, hooks.length());
+        Check.whole(hooks.toString(), 0);
+        Check.fault(hooks + "hook 0 9;", 3, hooks.length());
         String sixty = "right 1;".repeat(60);
-        whole(sixty + "   ", 0);
-        fault(sixty + "right 1;", 3, 480);
-        fault(sixty + "  board 0;", 3, 482);
-        fault(sixty + "lift 1;", 1, 480);
-        fault(sixty + ";", 1, 480);
-        fault("right 1;".repeat(59) + "lift 1;", 1, 472);
+        Check.whole(sixty + "   ", 0);
+        Check.fault(sixty + "right 1;", 3, 480);
+        Check.fault(sixty + "  board 0;", 3, 482);
+        Check.fault(sixty + "lift 1;", 1, 480);
+        Check.fault(sixty + ";", 1, 480);
+        Check.fault("right 1;".repeat(59) + "lift 1;", 1, 472);
     }
 
     /** Promise 5. */

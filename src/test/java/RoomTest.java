@@ -28,10 +28,11 @@ public final class RoomTest {
         return threads.getThreadAllocatedBytes(Thread.currentThread().getId());
     }
 
+    /** As many of the dearest calls as an object is used for: 512, with those that tell the wall. */
     private static void run(WallClocks x) {
         Check.read(x, CROWD);
-        for (int k = 0; k < 20; k++) {
-            x.days(20);
+        for (int k = 0; k < 22; k++) {
+            x.days(18);
             x.image();
             x.image();
             x.image();

@@ -65,6 +65,40 @@ final class Check {
         return clocks.wall(feed(clocks, text));
     }
 
+    /** A new object refuses this text with this kind of fault at this place. */
+    static void fault(String text, int kind, int place) {
+        WallClocks x = new WallClocks();
+        due("wall of \"" + text + "\"", kind - 10, () -> read(x, text));
+        due("fault of \"" + text + "\"", place, x::fault);
+    }
+
+    /** A new object takes this text, and has so many clocks then. */
+    static void whole(String text, int clocks) {
+        WallClocks x = new WallClocks();
+        due("wall of \"" + text + "\"", clocks, () -> read(x, text));
+        due("fault of \"" + text + "\"", WallClocks.NONE, x::fault);
+    }
+
+    /** All that is told of today, and of where it leads to; the book is read by telling it the same again. */
+    static String stateOf(WallClocks x) {
+        StringBuilder state = new StringBuilder();
+        for (int what = 0; what <= 5; what++) {
+            state.append(x.told(what)).append(' ');
+        }
+        for (int clock = 0; clock < x.told(1); clock++) {
+            for (int what = 0; what <= 8; what++) {
+                state.append(what == 0 ? "| " : "").append(x.clock(clock, what)).append(' ');
+            }
+            int booked = x.book(clock, WallClocks.VOID);
+            x.book(clock, booked);
+            state.append(booked).append(' ').append(x.off(clock, 12)).append(' ');
+        }
+        for (int hook = 0; hook < x.told(2); hook++) {
+            state.append("/ ").append(x.hook(hook, 0)).append(' ').append(x.hook(hook, 1)).append(' ');
+        }
+        return state.append(x.count(0)).append(' ').append(x.count(1)).append(' ').append(x.fault()).toString();
+    }
+
     /** A new object with this wall; a text with a fault is a fault of the test. */
     static WallClocks walled(String text) {
         WallClocks clocks = new WallClocks();
