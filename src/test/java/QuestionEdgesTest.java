@@ -46,6 +46,8 @@ public final class QuestionEdgesTest {
         imagesAreFull();
         imageHasAll();
         restoreLeavesTheRest();
+        behindTheLastDay();
+        stoppedBehindTheLastDay();
         Check.end();
     }
 
@@ -689,6 +691,46 @@ public final class QuestionEdgesTest {
             wrong += sumOf(drawsOf(seed, 100)) > within ? 1 : 0;
         }
         return wrong;
+    }
+
+    // ---- "from now on, also behind the 400th"
+
+    private static WallClocks onTheLastDay(String text) {
+        WallClocks x = Check.walled(text);
+        x.days(400);
+        return x;
+    }
+
+    private static void behindTheLastDay() {
+        WallClocks x = onTheLastDay(deaf(1, 0, 0, 0) + "right 499;damp 0 0;");
+        Check.due("off", "401 500", () -> x.off(0, 1) + " " + x.off(0, 100));
+        Check.due("standing", "false true", () -> x.standing(1) + " " + onTheLastDay(deaf(10, 0, 0, 0)).standing(100));
+        Check.due("pushed", "4 0 2", () -> x.pushed(1, 70) + " " + onTheLastDay(deaf(1, 600, 0, 0)).pushed(1, 50) + " " + onTheLastDay(deaf(1, 600, 0, 0)).pushed(10, 15));
+        Check.due("beginnings", "1 1 18", () -> x.beginnings(1, 0, 70, 0) + " " + x.beginnings(1, 0, 70, 1) + " " + x.beginnings(1, 0, 70, 2));
+        Check.due("own", "1 1 1", () -> own(x, 500, 0, 100));
+        Check.due("look", "1 201", () -> look(x, 0, 100));
+        Check.due("wanted", "-1 0", () -> wanted(x, 300, 100));
+        Check.due("honest", "3 2", () -> x.honest(99) + " " + x.honest(100));
+        x.book(0, 600);
+        Check.due("infected", 1, () -> x.infected(100));
+        WallClocks near = onTheLastDay(light(0, 600, 1, 180) + "sound 0;");
+        Check.due("hold", "1 -1", () -> near.hold(40) + " " + near.hold(41));
+        Check.due("winters", 60 - wrongWinters(349), () -> onTheLastDay(deaf(0, 0) + "right 349;").winters(0, 100, 1, 60));
+        Check.due("two alone", "100 5 1000", () -> x.drawn(1, 0, 0, 100) + " " + x.comes(1, 0, 100, 0) + " " + onTheLastDay(deaf(0, 0, 0, 0)).stays(0, 1, 0));
+        Check.due("the day stays", 400, () -> x.told(3));
+    }
+
+    private static void stoppedBehindTheLastDay() {
+        WallClocks x = onTheLastDay(STOPPED + "clock 0 1 101 1 2 0;hook 1 1;hook 0 2;right 99;");
+        Check.due("fraud", "false true", () -> x.fraud(1, 99) + " " + x.fraud(1, 100));
+        Check.due("sale", "-1 100", () -> x.sale(1, 99) + " " + x.sale(1, 100));
+        Check.due("away", "0 2", () -> x.away(0, 99) + " " + x.away(0, 100));
+        Check.due("leader", 0, () -> x.leader(100));
+        Check.due("hung", "1 1 1", () -> ways(x, 2, 99));
+        Check.due("hung, a day more", "2 2 2", () -> ways(x, 2, 100));
+        x.hang(1, 0);
+        Check.due("better", "-1 -1", () -> better(x, 99));
+        Check.due("better, a day more", "100 2", () -> better(x, 100));
     }
 
     // ---- images

@@ -1,4 +1,3 @@
-import java.lang.reflect.InvocationTargetException;
 import java.lang.reflect.Method;
 import java.nio.charset.StandardCharsets;
 import java.util.Arrays;
@@ -19,8 +18,8 @@ public final class RandomRunsTest {
         "stays c c w1", "drawn c c e n", "comes c c n w2", "leader n", "better n w1", "wanted c o n w1", "sale c n", "honest n", "bound",
         "winter c n s", "winters c n s y", "image", "image", "restore", "count w1", "fault"};
 
-    private static final Map<String, Method> OURS = methodsOf(WallClocks.class);
-    private static final Map<String, Method> PLAIN = methodsOf(PlainWall.class);
+    private static final Map<String, Method> OURS = Calls.methodsOf(WallClocks.class);
+    private static final Map<String, Method> PLAIN = Calls.methodsOf(PlainWall.class);
     private static long answers = 0;
     private static final Map<String, Map<String, Integer>> SEEN = new HashMap<>();
 
@@ -171,8 +170,8 @@ public final class RandomRunsTest {
         if (wrong) {
             return;
         }
-        String got = answer(OURS.get(name), ours, arguments);
-        String want = answer(PLAIN.get(name), plain, arguments);
+        String got = Calls.answer(OURS.get(name), ours, arguments);
+        String want = Calls.answer(PLAIN.get(name), plain, arguments);
         answers++;
         SEEN.computeIfAbsent(name, k -> new HashMap<>()).merge(want.length() > 4 ? want.substring(0, 4) : want, 1, Integer::sum);
         if (!name.equals("feed")) {
@@ -182,29 +181,5 @@ public final class RandomRunsTest {
             wrong = true;
             story.append("  due is ").append(want).append('\n');
         }
-    }
-
-    private static String answer(Method method, Object object, int[] arguments) {
-        Object[] boxed = new Object[arguments.length];
-        for (int i = 0; i < arguments.length; i++) {
-            boxed[i] = arguments[i];
-        }
-        try {
-            return String.valueOf(method.invoke(object, boxed));
-        } catch (InvocationTargetException thrown) {
-            return thrown.getCause().getClass().getName();
-        } catch (IllegalAccessException refused) {
-            throw new IllegalStateException(refused);
-        }
-    }
-
-    private static Map<String, Method> methodsOf(Class<?> of) {
-        Map<String, Method> found = new HashMap<>();
-        for (Method method : of.getDeclaredMethods()) {
-            if (java.lang.reflect.Modifier.isPublic(method.getModifiers())) {
-                found.put(method.getName(), method);
-            }
-        }
-        return found;
     }
 }

@@ -1,8 +1,6 @@
-import java.lang.reflect.InvocationTargetException;
 import java.lang.reflect.Method;
 import java.util.ArrayList;
 import java.util.Arrays;
-import java.util.HashMap;
 import java.util.List;
 import java.util.Map;
 
@@ -31,7 +29,7 @@ public final class RefusedCallsTest {
             + "clock 1 4 96 5 1 50;clock 2 5 95 6 0 60;clock 2 6 94 7 2 70;clock 3 7 93 8 0 80;hook 0 10;hook 0 11;hook 1 12;hook 1 13;hook 2 14;hook 3 15;"
             + "hears 0 7 40;key 5 30;damp 2 9;sound 0;sound 2;sound 4;sound 6;";
 
-    private static final Map<String, Method> METHODS = new HashMap<>();
+    private static final Map<String, Method> METHODS = Calls.methodsOf(WallClocks.class);
 
     private final WallClocks x;
     private final int clocks;
@@ -44,9 +42,6 @@ public final class RefusedCallsTest {
     }
 
     public static void main(String[] args) {
-        for (Method method : WallClocks.class.getDeclaredMethods()) {
-            METHODS.put(method.getName(), method);
-        }
         for (String text : new String[] {SMALL, FULL}) {
             RefusedCallsTest test = new RefusedCallsTest(text);
             for (String call : CALLS) {
@@ -279,13 +274,6 @@ public final class RefusedCallsTest {
     }
 
     private String answerTo(String[] call, int[] arguments) {
-        Object[] boxed = Arrays.stream(arguments).boxed().toArray();
-        try {
-            return String.valueOf(METHODS.get(call[0]).invoke(x, boxed));
-        } catch (InvocationTargetException thrown) {
-            return thrown.getCause().getClass().getSimpleName();
-        } catch (IllegalAccessException refused) {
-            throw new IllegalStateException(refused);
-        }
+        return Calls.answer(METHODS.get(call[0]), x, arguments);
     }
 }
